@@ -103,6 +103,7 @@ public final class EveningsWaysTest {
 
     private static void reasonsOfGiving() {
         costs("A9C", 0);
+        costs("A9CA1C", 0);
         costs("A+CA9D", 0);
         why("A1E", 0, 1);
         why("E1A", 0, 1);
@@ -130,6 +131,15 @@ public final class EveningsWaysTest {
         due.is("9: nothing is done in fact", x.told(12), 100);
         due.is("9: nor does he walk", x.told(10), 0);
         due.is("9: costs once more", x.judge(2), 7);
+        x.walker(0, 0, 3, 7);
+        due.is("9: just enough", x.judge(1), LanternSteps.NONE);
+        due.is("9: none is left", x.behind(0, 1), 0);
+        x.walker(0, 0, 3, 6);
+        due.is("9: one too little", x.judge(1), 6);
+        due.is("9: the first act", x.judge(0), 0);
+        x.walker(0, 0, 3, 100);
+        due.is("9: no reason any more", x.judge(1), LanternSteps.NONE);
+        due.is("9: nor an act", x.judge(0), LanternSteps.NONE);
         x.fog(true);
         due.is("9: costs in fog", x.judge(2), 14);
         x.plank(0, 1, 50, true);

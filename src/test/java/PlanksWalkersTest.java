@@ -126,6 +126,11 @@ public final class PlanksWalkersTest {
         x.walker(0, 2, 0, 1000);
         x.walker(1, 12, 0, 0);
         due.is("3: others and refused ones change nothing", x.told(13), 1);
+        Due.say(x, "A-B+A");
+        x.done();
+        x.walker(5, 3, 3, 3);
+        due.is("3: nor does one who is there for the first time", x.behind(0, 3), 1);
+        due.is("3: who carries nobody", x.told(63), LanternSteps.NONE);
     }
 
     private static void leaving() {

@@ -42,6 +42,7 @@ public final class RoundsPlanksTest {
         due.is("17: from b", x.round(1, 13, 0), 64);
         due.is("17: one of two is not to be got to", x.round(0, 34, 0), LanternSteps.NONE);
         due.is("17: nor first", x.round(0, 34, 1), LanternSteps.NONE);
+        due.is("17: nor where one is", x.round(0, 33, 1), LanternSteps.NONE);
         due.is("17: there", x.round(5, 64, 0), 6);
         due.is("17: a set with its own place", x.round(6, 96, 0), 6);
         due.is("17: whose first is f", x.round(6, 96, 1), 5);
@@ -69,6 +70,13 @@ public final class RoundsPlanksTest {
         due.is("17: least first of those as dear", x.round(0, ring, 1), 1);
         x.plank(0, 1, 0, false);
         due.is("17: a row", x.round(0, ring, 0), 12);
+        LanternSteps y = new LanternSteps();
+        y.plank(11, 5, 1, false);
+        y.plank(5, 0, 1, false);
+        y.plank(0, 6, 1, false);
+        y.plank(6, 11, 1, false);
+        due.is("17: a is in the middle", y.round(11, 1 | 1 << 5 | 1 << 6, 0), 4);
+        due.is("17: f comes first", y.round(11, 1 | 1 << 5 | 1 << 6, 1), 5);
     }
 
     private static void roundRefused() {
@@ -138,6 +146,11 @@ public final class RoundsPlanksTest {
         due.is("19: f-g alone", x.decides(0), 66);
         x.plank(5, 6, 0, false);
         due.is("19: none", x.decides(0), LanternSteps.NONE);
+        LanternSteps y = new LanternSteps();
+        y.plank(0, 5, 1, false);
+        y.plank(5, 3, 1, false);
+        due.is("19: both", y.decides(-1), 2);
+        due.is("19: d-f by the lesser first", y.decides(1), 3 * 12 + 5);
     }
 
     private static void wax() {
@@ -177,6 +190,7 @@ public final class RoundsPlanksTest {
         due.is("21: at his home", x.post(0, 0), 3);
         due.is("21: for nothing", x.post(0, 1), 0);
         due.is("21: dearest: his home", x.post(1, 0), 3);
+        due.is("21: dearest: for nothing", x.post(1, 1), 0);
         x.walker(1, 9, 0, 0);
         due.is("21: a, the least of those with 32", x.post(0, 0), 0);
         due.is("21: together", x.post(0, 1), 32);

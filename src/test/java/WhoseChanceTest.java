@@ -116,6 +116,11 @@ public final class WhoseChanceTest {
         y.walker(1, 9, 0, 5);
         due.is("26: alike everywhere", y.ask(1), 2);
         due.is("26: the least", y.ask(0), 0);
+        for (int walker = 0; walker < 6; walker++) {
+            y.walker(walker, 11, 0, 5);
+        }
+        due.is("26: six alike", y.ask(1), 6);
+        due.is("26: the least, too", y.ask(0), 0);
     }
 
     private static void chance(LanternSteps x, int t, long upper, long lower, long meanUpper, long meanLower) {
@@ -207,6 +212,9 @@ public final class WhoseChanceTest {
         due.is("28: and away", x.year(0, 2, 0), 40);
         due.is("28: not at home", x.year(0, 2, 1), 0);
         due.is("28: twice", x.year(0, 2, 2), 2);
+        x.plank(1, 11, 3, false);
+        due.is("28: the third goes beyond 65537", x.year(0, 3, 0), 43);
+        due.is("28: thrice", x.year(0, 3, 2), 3);
         x.fog(true);
         due.is("28: in fog", x.year(0, 2, 0), 80);
         x.walker(2, 1, 0, 79);
@@ -308,6 +316,16 @@ public final class WhoseChanceTest {
         x.forget();
         x.restore(0);
         due.is("30: sights come again", x.told(3), 1);
+        x.forget();
+        x.walker(0, 0, 0, 10);
+        x.walker(1, 1, 0, 10);
+        x.seen(2, 7);
+        x.image(0);
+        x.forget();
+        x.seen(1, 10);
+        due.is("30: B now", x.whose(), 2);
+        x.restore(0);
+        due.is("30: A by the sight that was kept", x.whose(), 1);
     }
 
     private static void imagesRefused() {
@@ -345,6 +363,8 @@ public final class WhoseChanceTest {
         due.is("31: dry", x.told(100 + 12 + 2), 4);
         due.is("31: wet, in fog as ever", x.told(100 + 24 + 3), 7);
         due.is("31: back", x.told(100 + 36 + 2), 7);
+        due.is("31: b to a", x.told(100 + 12), 2);
+        due.is("31: a to b", x.told(100 + 1), 2);
         due.is("31: one place", x.told(100), 0);
         due.is("31: the last", x.told(243), 0);
         int[] outside = {-1, 4, 9, 14, 19, 54, 64, 69, 70, 73, 99, 244, 1000, Integer.MIN_VALUE, Integer.MAX_VALUE};
