@@ -2,8 +2,9 @@ import java.util.Random;
 
 /** Runs of calls by draws, on the class and on the Oracle: all answers are the same, and all that is told. */
 public final class OracleTest {
-    private static final int RUNS = 1500;
-    private static final int CALLS = 300;
+    private static final int RUNS = 2500;
+    /** Five calls more may come at once, and 252 at the end: an object is asked 512 times at most. */
+    private static final int CALLS = 255;
     private static final int[] FAR_OUT = {Integer.MIN_VALUE, Integer.MIN_VALUE + 1, -100, 1000000, Integer.MAX_VALUE};
 
     private static final Due due = new Due("OracleTest");
@@ -13,6 +14,7 @@ public final class OracleTest {
     private final int places;
     private final int mostSteps;
     private int walkLight;
+    private int calls;
 
     private OracleTest(int seed) {
         random = new Random(seed);
@@ -33,11 +35,8 @@ public final class OracleTest {
         for (int i = 0; i < first; i++) {
             call(0);
         }
-        for (int i = 0; i < CALLS - first; i++) {
+        for (int i = 0; i < 1000 && calls < CALLS; i++) {
             call(random.nextInt(34));
-            if (i % 60 == 0) {
-                compareAll(seed);
-            }
         }
         compareAll(seed);
     }
@@ -72,6 +71,7 @@ public final class OracleTest {
     }
 
     private void is(String call, long got, long want) {
+        calls++;
         due.is(call, got, want);
     }
 
