@@ -11,6 +11,8 @@ public final class ActsTest {
         signsBeforeOther();
         faultsChange();
         moreMustCome();
+        lettersOfPlaces();
+        lettersOfWalkers();
         reasonsOfWalking();
         reasonsOfTakingUp();
         reasonsOfSettingDown();
@@ -110,6 +112,42 @@ public final class ActsTest {
         for (int signs = 1; signs <= 60; signs++) {
             y.say("Fl".charAt((signs - 1) % 2));
             due.is("8: " + signs + " signs of Fl", y.fault(), signs % 2 == 0 ? NONE : signs);
+        }
+    }
+
+    /** a to l are the places 0 to 11, A to F the walkers 0 to 5. */
+    private static void lettersOfPlaces() {
+        for (int walker = 0; walker < 6; walker++) {
+            LanternSteps x = new LanternSteps();
+            for (int place = 0; place < 12; place++) {
+                int from = (place + 5) % 12;
+                x.plank(from, place, place + 1, false);
+                x.walker(walker, from, 0, 20);
+                String text = "" + (char) ('A' + walker) + (char) ('a' + place);
+                Due.sayAnew(x, text);
+                due.is("10: behind " + text, x.behind(walker, 0), place);
+                due.is("10: light behind " + text, x.behind(walker, 1), 19 - place);
+                due.is("11: who behind " + text, x.who(place), 1 << walker);
+                x.plank(from, place, 0, false);
+            }
+        }
+    }
+
+    private static void lettersOfWalkers() {
+        LanternSteps x = new LanternSteps();
+        for (int walker = 0; walker < 6; walker++) {
+            x.walker(walker, 11, 0, 10);
+        }
+        for (int pair = 0; pair < 36; pair++) {
+            int one = pair / 6;
+            int other = pair % 6;
+            String letters = "" + (char) ('A' + one) + "+" + (char) ('A' + other);
+            Due.sayAnew(x, letters);
+            due.is("10: whom behind " + letters, x.behind(one, 2), one == other ? STATE : other);
+            due.is("10: who behind " + letters, x.behind(other, 3), one == other ? STATE : one);
+            Due.sayAnew(x, letters.replace('+', '1'));
+            due.is("10: light given by " + letters, x.behind(one, 1), one == other ? STATE : 0);
+            due.is("10: light given to " + letters, x.behind(other, 1), one == other ? STATE : 20);
         }
     }
 
